@@ -36,7 +36,7 @@ public final class ModelTest {
             if (upTo(40) == 0) call(0);
             else if (kind == 0) call(upTo(39));
             else if (kind == 1) call(of(3, 6, 11, 13, 14, 14, 15, 16, 17, 18, 19, 20, 21, 22, 22, 38));
-            else if (kind == 2) call(of(12, 23, 23, 23, 24, 25, 25, 26, 26, 27, 28, 14, 15, 38));
+            else if (kind == 2) call(of(6, 12, 23, 24, 25, 25, 26, 26, 26, 27, 27, 28, 14, 15, 15, 22, 38));
             else call(of(3, 13, 14, 14, 29, 30, 31, 32, 33, 33, 34, 35, 36, 10));
         }
     }
@@ -54,25 +54,38 @@ public final class ModelTest {
         for (int i = 0; i < boats; i++) call(2);
         int rules = upTo(4);
         for (int i = 0; i < rules; i++) {
-            feed(texts.good());
-            due("rules", x.rules(0), m.rules(0));
+            feed(i == 0 && kind > 0 ? texts.whole() : texts.good());
+            due("rules(0)", x.rules(0), m.rules(0));
         }
         if (upTo(2) == 0) call(0);
         for (int i = 0; i < boats; i++) {
             int[] n = {upTo(boats), upTo(2) * upTo(20), 10 + upTo(391), 1 + upTo(400), 1 + upTo(300)};
             due("certificate" + list(n), x.certificate(n[0], n[1], n[2], n[3], n[4]), m.certificate(n[0], n[1], n[2], n[3], n[4]));
         }
-        int races = kind == 2 ? 1 + upTo(3) : 2 + upTo(7);
+        int races = kind == 2 ? 1 + upTo(2) : kind == 3 ? 4 + upTo(8) : 2 + upTo(7);
         for (int r = 0; r < races; r++) {
             race(upTo(m.now + 1), upTo(4) == 0 ? 1 : 0);
             for (int b = 0; b < boats; b++) {
-                if (upTo(6) == 0) continue;
+                if (upTo(8) == 0) continue;
                 due("enter(" + r + ", " + b + ")", x.enter(r, b) ? 1 : 0, m.enter(r, b) ? 1 : 0);
                 if (kind == 2 || upTo(5) == 0) continue;
                 int seconds = seconds();
                 due("result(" + r + ", " + b + ", 0, " + seconds + ")", x.result(r, b, 0, seconds) ? 1 : 0, m.result(r, b, 0, seconds) ? 1 : 0);
             }
             if (upTo(3) == 0) call(0);
+            if (kind == 2) meet(r, boats);
+        }
+    }
+
+    /** All BOATS come near one another at second 10, and some protest. */
+    private void meet(int r, int boats) {
+        for (int b = 0; b < boats; b++) {
+            int[] n = {r, b, 10, 40 + upTo(3), 50 + upTo(3), upTo(4), upTo(3) == 0 ? 1 << upTo(8) : 1 + upTo(255)};
+            due("word" + list(n), x.word(n[0], n[1], n[2], n[3], n[4], n[5], n[6]), m.word(n[0], n[1], n[2], n[3], n[4], n[5], n[6]));
+        }
+        for (int i = 0; i < 3; i++) {
+            int[] n = {r, upTo(boats), upTo(boats), 10};
+            due("protest" + list(n), x.protest(n[0], n[1], n[2], n[3]), m.protest(n[0], n[1], n[2], n[3]));
         }
     }
 
@@ -236,8 +249,9 @@ public final class ModelTest {
         int second = upTo(20) == 0 ? number(0, 100000) : upTo(5) == 0 ? 8 + upTo(5) : 10;
         switch (what) {
             case 23: {
-                int middle = 40 + upTo(3) * upTo(2);
-                int[] n = {r, aBoat(), second, number(middle, middle + 2), number(50, 52), number(0, 3),
+                int ahead = upTo(3) == 0 ? 0 : second - 10;
+                int size = second == 10 ? 2 + upTo(2) : number(0, 3);
+                int[] n = {r, aBoat(), second, number(39 + ahead, 41 + ahead), number(49 - ahead, 51 - ahead), size,
                     upTo(2) == 0 ? 255 : upTo(3) == 0 ? number(1, 255) : 255 & ~(1 << upTo(8))};
                 due("word" + list(n), x.word(n[0], n[1], n[2], n[3], n[4], n[5], n[6]), m.word(n[0], n[1], n[2], n[3], n[4], n[5], n[6]));
                 break;

@@ -33,6 +33,17 @@ final class Texts {
         return "n:l";
     }
 
+    /** A TEXT with a CLAUSE for all that may be asked. */
+    String whole() {
+        String[] all = {"n:" + (400 + upTo(600)) + "+l*" + (1 + upTo(3)) + pick("", "+s/9", "-w/5"),
+            pick("p:k=0?r;p:e*10+20", "p:k=0?r*r/10;p:f*30", "p:k=5?e*20;p:k=0?r+f;p:e*9", "p:r"),
+            "t:" + pick("c/3", "c/2", "1", "c-1", "c>2?2", "0"),
+            "a:" + pick(condition() + "?1", "d-2", "1", "o", "m-k"), "b:" + pick(condition() + "?1", "d-3", "1", "u", "m-k")};
+        StringBuilder text = new StringBuilder(all[0]);
+        for (int i = 1; i < all.length; i++) text.append(';').append(all[i]);
+        return text.toString();
+    }
+
     private String sensible() {
         switch (upTo(12)) {
             case 0: return "n:" + (400 + upTo(600)) + "+l*" + (1 + upTo(5)) + pick("", "+s", "-w", "+s-w");

@@ -597,11 +597,15 @@ public final class UnlikeBoats {
                         stack[high - 1] = join(sign, stack[high - 1], stack[high]);
                     }
                 } else if (high < stack.length) {
-                    stack[high] = step >= 0 ? step : letters[-1 - step];
+                    stack[high] = step >= 0 ? step : letterAt(-1 - step, letters);
                     high++;
                 }
             }
             return high > 0 ? stack[high - 1] : 0;
+        }
+
+        private static int letterAt(int place, int[] letters) {
+            return place < letters.length ? letters[place] : 0;
         }
 
         private static int join(int sign, int a, int b) {
@@ -663,6 +667,7 @@ public final class UnlikeBoats {
                 readClause();
             }
             if (next() != NOTHING) fail();
+            begins[clauses] = size;
             return fault;
         }
 
@@ -715,7 +720,6 @@ public final class UnlikeBoats {
                 readSum(0);
             }
             clauses++;
-            begins[clauses] = size;
         }
 
         /** Begun: the first SUM of it was read already, as only its sign tells a CONDITION from a SUM. */
@@ -803,11 +807,8 @@ public final class UnlikeBoats {
         private void readNumber() {
             int number = 0;
             int digits = 0;
-            while (at < length && isDigit(bytes[at])) {
-                if (digits == MOST_DIGITS) {
-                    fail();
-                    return;
-                }
+            // A sixth digit stays behind, and nothing that may follow a number takes it.
+            while (digits < MOST_DIGITS && at < length && isDigit(bytes[at])) {
                 number = number * 10 + bytes[at] - '0';
                 digits++;
                 at++;
@@ -1095,7 +1096,7 @@ public final class UnlikeBoats {
             book.forgetLetters();
             book.letters[C] = races;
             int worth = book.worthIn(book.rulesOn(q, q), 't');
-            return races == 0 ? 0 : held(worth, 0, races - 1);
+            return held(worth, 0, Math.max(0, races - 1));
         }
 
         private void throwOut(int boat, int outs) {
@@ -1300,9 +1301,10 @@ public final class UnlikeBoats {
         private final int[] seconds = new int[MOST_RACES * MOST_BOATS];
         private final int[] numbers = new int[MOST_RACES * MOST_BOATS];
         private final int[] times = new int[MOST_RACES * MOST_BOATS];
-        // The RACES that count for the BOAT asked of, and MIDDLE of each.
+        // The RACES that count for the BOAT asked of, MIDDLE of each, its own seconds and its RATIO.
         private final int[] counted = new int[MOST_RACES];
         private final int[] middles = new int[MOST_RACES];
+        private final int[] own = new int[MOST_RACES];
         private final int[] ratios = new int[MOST_RACES];
         private final int[] row = new int[MOST_BOATS];
         // CORRECTED with each change of each BOAT to be evened in each RACE; NONE without CODE 0.
@@ -1366,12 +1368,13 @@ public final class UnlikeBoats {
         int fitOf(int boat) {
             int size = gather(boat);
             if (size == 0) return NONE;
+            for (int i = 0; i < size; i++) own[i] = seconds[cell(counted[i], boat)];
             int fit = NONE;
             int least = Integer.MAX_VALUE;
             for (int number = LEAST_NUMBER; number <= MOST_NUMBER; number++) {
                 int sum = 0;
                 for (int i = 0; i < size && sum < least; i++) {
-                    sum += apart(seconds[cell(counted[i], boat)] * number / 1000, middles[i]);
+                    sum += apart(own[i] * number / 1000, middles[i]);
                 }
                 if (sum < least) {
                     least = sum;

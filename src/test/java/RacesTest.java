@@ -57,6 +57,9 @@ public final class RacesTest {
         Check.due("swift 4", x.swift(0, 4), true);
         Check.due("told 4", x.told(0, 7), 4);
         Check.due("of another race", x.told(1, 7), 2);
+        x.days(397);
+        Check.due("swift on the last day", x.swift(0, 3), true);
+        Check.due("told on the last day", x.told(0, 7), 3);
         Check.due("no such race", x.swift(2, 3), false);
         Check.due("no such race", x.swift(-1, 3), false);
     }

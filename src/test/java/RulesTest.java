@@ -127,6 +127,11 @@ public final class RulesTest {
         sum("[99999*99999+1-10000*999]/10", 1000);
         sum("[99999*99999-10000*999]/10", 1000);
         sum("[0-99999*99999-1]/10000", -1000);
+        sum("99999*99999-10000*1000", 0);
+        sum("0-99999*99999+10000*1000", 0);
+        sum("99999*100+99999*100-10000*1000", 0);
+        sum("0-99999*100-99999*100+10000*1000", 0);
+        sum("99999*100+99-9999*1000", 999);
         sum("[0-99999*99999-1+10000*999]/10", -1000);
         sum("r+e+f+l+s+w+c+d+g+h+u+m+o", 0);
     }
@@ -172,9 +177,32 @@ public final class RulesTest {
         clause("p : k = 2 ? 1 + 8 ; p : 2", 9);
     }
 
+    /** Letters that were told for another ask are 0 in the next one. */
+    private static void lettersOfOthers() {
+        UnlikeBoats x = Check.fleet(3);
+        Check.rules(x, 0, "n:k+r+e+f+c+d+g+h+u+m+o+600;p:l+s+w+c+d+g+h+u+m+o+7;t:l+s+w+k+r+e+f+d+g+h+u+m+o;"
+            + "a:l+s+w+r+e+f+c;b:1");
+        for (int i = 0; i < 3; i++) x.certificate(i, 0, 111, 222, 333);
+        for (int race = 0; race < 2; race++) Check.raced(x, 10, 20, 30);
+        x.word(0, 0, 5, 10, 10, 0, 255);
+        x.word(0, 1, 5, 20, 20, 0, 255);
+        x.protest(0, 0, 1, 5);
+        for (int i = 0; i < 2; i++) {
+            Check.due("total", x.total(0, 0), 14);
+            Check.due("a behind a total", x.finding(0, 0, 0), 0);
+            Check.due("n behind a finding", x.number(0, 0, 0), 600);
+            Check.due("a behind a number", x.finding(0, 0, 0), 0);
+            Check.due("p behind a finding", x.points(1, 2, 0), 7);
+            Check.due("n behind points", x.number(0, 0, 0), 600);
+            Check.due("a behind points", x.finding(0, 0, 0), 0);
+            Check.due("t behind a finding", x.thrown(1, 0, 0), 0);
+        }
+    }
+
     private static void letters() {
         UnlikeBoats x = Check.fleet(1);
         x.certificate(0, 0, 111, 222, 333);
+        lettersOfOthers();
         Check.rules(x, 0, "n:k+r+e+f+c+d+g+h+u+m+o+600");
         Check.due("what is not told is 0", x.number(0, 0, 0), 600);
         Check.rules(x, 0, "n:l*5");

@@ -31,6 +31,14 @@ public final class TapeTest {
         Check.due("just 200", x.feed(0x31313131, 0x31313131, 0x31313131, 0x31313131, 0x00313131), 200);
         Check.due("one more", x.feed(0, 0, 0, 0, 0x31), -1);
         Check.due("none more", x.feed(0, 0, 0, 0, 0), 200);
+        for (int bit = 0; bit < 32; bit++) {
+            int one = 1 << bit;
+            Check.due("a byte at bit " + bit, x.feed(one, 0, 0, 0, 0), -1);
+            Check.due("a byte at bit " + bit, x.feed(0, one, 0, 0, 0), -1);
+            Check.due("a byte at bit " + bit, x.feed(0, 0, one, 0, 0), -1);
+            Check.due("a byte at bit " + bit, x.feed(0, 0, 0, one, 0), -1);
+            Check.due("a byte at bit " + bit, x.feed(0, 0, 0, 0, one), -1);
+        }
         Check.due("count(8)", x.count(8), 200);
         x = new UnlikeBoats();
         Check.due("negative numbers", x.feed(-1, 0x80000000, 0, 0, 0xff), 6);

@@ -210,6 +210,10 @@ public final class TapeTest {
         fault("n:  1  +  l  ;  p  :  2", -1);
         fault("n: ! ( l = 1 | s > 2 & [ w ] < 3 ) ? 4 * 5", -1);
         fault("n: l x", 5);
+        fault(" n:1", -1);
+        fault("n:1  ", -1);
+        fault("n:1; ", 5);
+        fault("  ", 2);
         fault("n: ", 3);
         fault("n:l + ", 6);
         fault("n:l= ", 5);

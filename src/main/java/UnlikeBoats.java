@@ -1062,7 +1062,7 @@ public final class UnlikeBoats {
 
         void tally(int q) {
             races = book.racesIn(q);
-            Arrays.fill(scored, false);
+            for (int boat = 0; boat < MOST_BOATS; boat++) scored[boat] = false;
             for (int race = 0; race < races; race++) {
                 sheet.read(race, q);
                 for (int boat = 0; boat < book.boats; boat++) {

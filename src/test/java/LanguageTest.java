@@ -13,7 +13,8 @@ public final class LanguageTest {
     private static final String[] NOT_IN_IT = {"->", "::", "\\bfinally\\b", "\\btry\\b", "\\bcatch\\b", "\\bsynchronized\\b",
         "\\bassert\\b", "\\bpackage\\b", "\\bvar\\b", "Exact\\(", "\\bSystem\\.(?!arraycopy)", "\\bThread\\b", "\\bRandom\\b",
         "\\bObject\\b", "\\bstatic \\{", "\\bequals\\(", "hashCode", "toString", "String\\.format", "\\bvolatile\\b",
-        "\\bprotected\\b", "\\bnative\\b", "\\bLong\\.MAX_VALUE\\b.*\\*", "\\bdouble\\b", "\\bfloat\\b", "\\.stream\\("};
+        "\\bprotected\\b", "\\bnative\\b", "\\bLong\\.MAX_VALUE\\b.*\\*", "\\bdouble\\b", "\\bfloat\\b", "\\.stream\\(",
+        "Arrays\\.fill\\(\\w+, (true|false)\\)"};
     private static final String[] LIBRARY = {"java.util.ArrayList", "java.util.Arrays", "java.util.NoSuchElementException"};
     private static final int MOST_LINES = 60;
 

@@ -50,7 +50,7 @@ public final class EdgesTest {
         }
     }
 
-    private static void run(Part part) {
+    static void run(Part part) {
         Caller caller = new Caller();
         List<Step> told = new ArrayList<>();
         Twin twin = new Twin(told);
